@@ -291,6 +291,33 @@ public final class PromisesTest {
         due("11: stolen as it is", x.thingOf(0, 5), 1);
         due("11: thing -1", x.steal(-1), BEYOND);
         due("11: thing 1", x.steal(1), BEYOND);
+        stolenOnes();
+    }
+
+    /** A theft takes away what a thing counts, and nothing else that is told of it. */
+    private static void stolenOnes() {
+        SpoonWords x = lenders();
+        x.thing(0, 40, 7);
+        x.thing(0, 5, 0);
+        x.promise(0, 1, 40, 9, 1);
+        x.steal(0);
+        due("4: owned still", x.personOf(0, 2), 3);
+        due("4: held still", x.personOf(1, 3), 1);
+        due("4: base of all held", x.personOf(1, 4), 40);
+        due("40: bases of all", x.count(6), 45);
+        due("23: harm by its base", x.look(0, 0), 40);
+        due("24: and the worst by it", x.worst(), 0);
+        due("16: a day", x.days(1), 0);
+        due("16: it rots", x.thingOf(0, 2), 33);
+        due("10: its base", x.base(0, 20), 33);
+        x.sheet(0, 8, 1);
+        x.write(0, 0, 50);
+        due("34: its base is laid", x.lays(0), 1);
+        due("34: so much", x.thingOf(0, 2), 50);
+        due("7: and counts nothing", x.counts(0, 1), 0);
+        due("15: broken", x.breaks(0), 1);
+        due("15: stolen still", x.thingOf(0, 5), 1);
+        due("15: harm by its base", x.personOf(0, 1), 50);
     }
 
     // ---- promises
@@ -447,7 +474,27 @@ public final class PromisesTest {
         x.steal(0);
         due("15: a stolen one has another owner too", x.breaks(0), 2);
         due("15: and does harm", x.personOf(0, 1), 90);
-        due("15: thief's harm", x.personOf(1, 1), 40);
+        due("15: its holder's harm by the theft", x.personOf(1, 1), 40);
+        endedPromises();
+    }
+
+    /** One that is kept or broken tells still what it was, but lies behind nothing. */
+    private static void endedPromises() {
+        SpoonWords x = lenders();
+        x.thing(0, 40, 0);
+        x.thing(1, 70, 0);
+        x.promise(0, 1, 30, 7, 1);
+        x.promise(1, 2, 60, 8, 2);
+        x.keep(0);
+        x.breaks(1);
+        int[] kept = {0, 1, 30, 7, 1, 0, 0};
+        int[] broken = {1, 2, 60, 8, 2, 0, 0};
+        for (int what = 0; what <= 6; what++) {
+            due("13: of a kept one, what " + what, x.promiseOf(0, what), kept[what]);
+            due("13: of a broken one, what " + what, x.promiseOf(1, what), broken[what]);
+        }
+        due("18: a broken one owes nothing", x.owed(1, 2), 0);
+        due("27: neither is bare", x.bare(), 0);
     }
 
     private static void days() {
@@ -725,6 +772,20 @@ public final class PromisesTest {
         due("21: eleven", x.fewest(0, 1, 35), SIZE);
         due("21: size ahead of none", x.fewest(0, 1, 36), SIZE);
         due("21: beyond ahead of size", x.fewest(0, 1, 0), BEYOND);
+        fewestWithoutRoom();
+    }
+
+    /** Which things could be put behind a promise doesn't hang on how many promises there are. */
+    private static void fewestWithoutRoom() {
+        SpoonWords x = lenders();
+        x.thing(0, 10, 0);
+        for (int i = 0; i < 24; i++) {
+            x.promise(0, 1, 10, 0, 1);
+            x.keep(i);
+        }
+        due("21: no 25th", x.promise(0, 1, 10, 0, 1), FULL);
+        due("21: but the set", x.fewest(0, 1, 10), 1);
+        due("22: and the most", x.most(0, 1), 10);
     }
 
     private static void most() {
@@ -829,6 +890,29 @@ public final class PromisesTest {
         due("25: with new owners", x.night(2), 2);
         due("25: what -1", x.night(-1), BEYOND);
         due("25: what 3", x.night(3), BEYOND);
+        longNight();
+    }
+
+    /** Chains of six that share one promise with the next chain: each promise waits for the one with the next number. */
+    private static void longNight() {
+        SpoonWords x = people(2, 2);
+        x.rule(0, 5);
+        int things = 1;
+        x.thing(0, 1, 0);
+        for (int i = 0; i < 24; i++) {
+            int from = i % 2;
+            int set = 1 << (things - 1);
+            if (i % 5 == 0 && i > 0) {
+                x.thing(from, 1, 0);
+                set |= 1 << things;
+                things++;
+            }
+            due("25: promise " + i, x.promise(from, 1 - from, 1, 0, set), i);
+        }
+        due("25: only the last can be", x.can(), 1 << 23);
+        due("25: as many kept as can be promised", x.night(0), 24);
+        due("25: one in each round", x.night(1), 24);
+        due("25: all home behind them", x.night(2), 5);
     }
 
     private static void least() {
